@@ -18,13 +18,6 @@ final class Probe {
         return probe.text.toString();
     }
 
-    /** The answers of the command queries, which undo and restore leave as they are. */
-    static String ofCommands(SilentOpera opera) {
-        return "error " + Check.outcome(opera::errorPosition)
-                + " failed " + Check.outcome(opera::failedCommand)
-                + " " + Check.outcome(opera::failedException);
-    }
-
     private void note(String name, Object answer) {
         text.append(name).append('=').append(answer).append('\n');
     }

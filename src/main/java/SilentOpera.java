@@ -1213,7 +1213,6 @@ public final class SilentOpera {
         /** Reads the text into commands, and answers whether it is a command text. */
         boolean readAll() {
             position = 0;
-            count = 0;
             for (int index = 0; index < MAX_COMMANDS; index++) {
                 if (!readCommand(commands[index])) {
                     return false;

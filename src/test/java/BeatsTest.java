@@ -84,6 +84,14 @@ public final class BeatsTest {
     private static void promise27LoudestBeat() {
         SilentOpera opera = Stage.with(2);
         check.noElement("no cues", opera, opera::loudestBeat);
+        opera.cueProp(0, 30, 1);
+        check.same("first cue, least noise", 30, opera.loudestBeat());
+        opera.cueProp(0, 29, 3);
+        opera.cueProp(0, 28, 2);
+        check.same("neither first nor last", 29, opera.loudestBeat());
+        opera.cancelCue(1);
+        opera.cancelCue(2);
+        opera.cancelCue(0);
         opera.cueMouth(0, 1, 9);
         opera.cueHush(1, 9);
         check.noElement("no props", opera, opera::loudestBeat);

@@ -12,6 +12,7 @@ public final class CuesTest {
         promise14CueCount();
         promise15CueAt();
         promises16And17FirstCueFrom();
+        promises16And17LeaningTrees();
         promises18To21Parts();
         promises22And23Conflicts();
         check.end();
@@ -179,6 +180,34 @@ public final class CuesTest {
         opera.moveCue(1, 40);
         check.same("after a move", 4, opera.firstCueFrom(5));
         check.same("after a move, by scan", 4, opera.firstCueFromByScan(5));
+    }
+
+    /** Trees that lean to one side, and trees that lose cues at their root and inside. */
+    private static void promises16And17LeaningTrees() {
+        SilentOpera rising = new SilentOpera();
+        SilentOpera falling = new SilentOpera();
+        for (int cue = 0; cue < 16; cue++) {
+            rising.cueHush(cue + 1, 1);
+            falling.cueHush(16 - cue, 1);
+        }
+        for (int beat = 1; beat <= 16; beat++) {
+            check.same("rising, from " + beat, beat - 1, rising.firstCueFrom(beat));
+            check.same("falling, from " + beat, 16 - beat, falling.firstCueFrom(beat));
+        }
+        SilentOpera mixed = new SilentOpera();
+        for (int beat : new int[] {9, 20, 15, 30, 12, 17, 25}) {
+            mixed.cueHush(beat, 1);
+        }
+        mixed.moveCue(0, 18);
+        mixed.cancelCue(1);
+        mixed.moveCue(2, 40);
+        int[] due = {4, 5, 0, 6, 3, 2};
+        int from = 0;
+        for (int cue : due) {
+            check.same("mixed, from " + from, cue, mixed.firstCueFrom(from));
+            check.same("mixed, by scan from " + from, cue, mixed.firstCueFromByScan(from));
+            from = mixed.cueBeat(cue) + 1;
+        }
     }
 
     private static void promises18To21Parts() {

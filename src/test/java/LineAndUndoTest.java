@@ -127,6 +127,7 @@ public final class LineAndUndoTest {
         opera.cueHush(2, 9);
         opera.advance(2);
         opera.cueProp(1, 9, 2);
+        opera.cueMouth(0, 4, 2);
         undone("addPerformer", opera, opera::addPerformer);
         undone("payFine", opera, () -> opera.payFine(1, 3));
         undone("whisper", opera, () -> opera.whisper(1, 3));
@@ -134,16 +135,21 @@ public final class LineAndUndoTest {
         undone("cueProp", opera, () -> opera.cueProp(0, 9, 3));
         undone("cueHush", opera, () -> opera.cueHush(9, 3));
         undone("cancelCue", opera, () -> opera.cancelCue(4));
-        undone("moveCue", opera, () -> opera.moveCue(4, 20));
+        undone("moveCue", opera, () -> opera.moveCue(4, 99));
         undone("advance", opera, () -> opera.advance(17));
         undone("turnAct", opera, opera::turnAct);
         undone("run", opera, () -> Stage.type(opera, "performer;limit 0;advance 40;act").run());
+        opera.setLimit(5);
+        opera.moveCue(4, 99);
         opera.setLimit(3);
         opera.undo();
-        check.same("setLimit undone", 6, opera.setLimit(6));
+        check.same("setLimit undone", 5, opera.setLimit(6));
+        check.same("setLimit undone alone", 99, opera.cueBeat(4));
     }
 
     private static void undone(String what, SilentOpera opera, Check.Call change) {
+        // So that no two of the changes begin with the same object.
+        opera.moveCue(4, opera.cueBeat(4) + 1);
         String before = Probe.of(opera);
         check.isTrue(what + " is carried out", Check.outcome(change) instanceof Integer);
         check.isTrue(what + " changes something", !before.equals(Probe.of(opera)));

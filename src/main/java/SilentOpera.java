@@ -26,7 +26,8 @@ public final class SilentOpera {
     private static final int SHORT_LOOK = 10;
     private static final int FIRST_LIMIT = 6;
 
-    private static final char FREE = ' ';
+    // What a new row holds.
+    private static final char FREE = 0;
     private static final char MOUTH = 'm';
     private static final char PROP = 'p';
     private static final char HUSH = 'h';
@@ -858,7 +859,6 @@ public final class SilentOpera {
         int count = 0;
 
         CueTree() {
-            Arrays.fill(kinds, FREE);
             Arrays.fill(lower, NONE);
             Arrays.fill(higher, NONE);
         }

@@ -21,13 +21,14 @@ public final class ModelTest {
     private final SilentOpera opera = new SilentOpera();
     private final Model model = new Model();
     private final String name;
+    private final boolean isNarrow;
     private int now = 0;
-    private int nextId = 0;
     private int calls = 0;
 
     private ModelTest(int seed) {
         random = new Random(seed);
         name = "seed " + seed;
+        isNarrow = random.nextBoolean();
     }
 
     public static void main(String[] args) {
@@ -46,25 +47,26 @@ public final class ModelTest {
 
     private void run(List<Method> methods) {
         int changesOf10 = 2 + random.nextInt(7);
-        // Without this many runs would stand in the last act, beyond the last beat for cues.
-        boolean isSlow = random.nextBoolean();
+        boolean isSlow = random.nextInt(4) != 0;
+        for (int performer = random.nextInt(7); performer > 0; performer--) {
+            call(named(methods, "addPerformer"), isSlow);
+        }
         while (calls < CALLS) {
             int dice = random.nextInt(10);
-            if (dice == 0 && random.nextInt(4) == 0) {
-                typeAndRun();
-            } else if (dice < changesOf10) {
-                Method method = named(methods, CHANGES[random.nextInt(CHANGES.length)]);
-                if (!isSlow || !isHasty(method.getName()) || random.nextInt(6) == 0) {
-                    call(method, isSlow);
-                }
-            } else {
-                call(methods.get(random.nextInt(methods.size())), isSlow);
+            Method method = dice < changesOf10
+                    ? named(methods, CHANGES[random.nextInt(CHANGES.length)])
+                    : methods.get(random.nextInt(methods.size()));
+            if (random.nextInt(150) == 0) {
+                typeAndRun(methods);
+            } else if (!isSlow || !isHasty(method.getName()) || random.nextInt(6) == 0) {
+                call(method, isSlow);
             }
         }
     }
 
+    /** With as many of these as of the others, most runs would have few cues, and soon no more. */
     private static boolean isHasty(String method) {
-        return method.equals("turnAct") || method.equals("advance");
+        return List.of("turnAct", "advance", "append", "restore", "cancelCue", "undo").contains(method);
     }
 
     private static Method named(List<Method> methods, String name) {
@@ -97,7 +99,6 @@ public final class ModelTest {
         Object got = outcome(method, given);
         check.same(name + ", call " + calls + ", " + what + Arrays.toString(given), due, got);
         now = opera.now();
-        nextId = what.startsWith("cue") && got instanceof Integer ? Math.max(nextId, (Integer) got) : nextId;
     }
 
     private Object outcome(Method method, Object[] given) {
@@ -118,7 +119,7 @@ public final class ModelTest {
                 "firstCueFromByScan").contains(method)
                 || index == 1 && List.of("cueMouth", "cueProp", "moveCue").contains(method);
         if (isBeat) {
-            return now + random.nextInt(14);
+            return now + random.nextInt(isNarrow ? 5 : 14);
         }
         if (method.equals("advance") || method.startsWith("finesAfter") && index == 1) {
             return random.nextInt(42);
@@ -129,24 +130,29 @@ public final class ModelTest {
         boolean isId = index == 0 && (method.startsWith("cue") && !method.equals("cueMouth")
                 && !method.equals("cueProp") || method.endsWith("Cue"));
         if (isId) {
-            return Math.max(0, nextId - random.nextInt(18));
+            return pendingId();
         }
         return method.equals("setLimit") ? random.nextInt(33) : random.nextInt(random.nextInt(10) + 1);
     }
 
-    private void typeAndRun() {
+    private int pendingId() {
+        int cues = opera.cueCount();
+        return cues > 0 && random.nextInt(8) != 0 ? opera.cueAt(random.nextInt(cues)) : random.nextInt(40);
+    }
+
+    private void typeAndRun(List<Method> methods) {
+        compare("run", new Object[0], new int[3], named(methods, "run"));
         StringBuilder text = new StringBuilder();
         while (text.length() < 44 && (text.isEmpty() || random.nextInt(4) != 0)) {
             text.append(text.isEmpty() ? "" : ";").append(command());
         }
-        if (random.nextInt(3) == 0) {
+        if (random.nextInt(5) == 0) {
             int at = random.nextInt(text.length());
             text.setCharAt(at, " ;0123456789abcdefghilmnoprstuvwxy".charAt(random.nextInt(34)));
         }
         if (random.nextInt(8) == 0) {
             text.setLength(random.nextInt(text.length()));
         }
-        List<Method> methods = methods();
         Method append = named(methods, "append");
         for (int index = 0; index < text.length() && index < 60; index++) {
             char sign = text.charAt(index);
@@ -158,15 +164,15 @@ public final class ModelTest {
     }
 
     private String command() {
-        int performer = random.nextInt(7);
-        int beat = random.nextInt(12) == 0 ? random.nextInt(1000) : now + 1 + random.nextInt(9);
-        int id = Math.max(0, nextId - random.nextInt(8));
-        int size = random.nextInt(10);
+        int performer = random.nextInt(random.nextInt(7) + 1);
+        int beat = random.nextInt(20) == 0 ? random.nextInt(1000) : now + 1 + random.nextInt(9);
+        int id = pendingId();
+        int size = random.nextInt(10) == 0 ? 0 : 1 + random.nextInt(9);
         String[] commands = {"performer", "pay " + performer + " " + size,
             "whisper " + performer + random.nextInt(4), "mouth " + performer + " " + beat + " " + size,
             "prop " + performer + " " + beat + " " + size, "hush " + beat + " " + size,
             "cancel " + id, "move " + id + " " + beat, "limit " + random.nextInt(32),
-            "advance " + random.nextInt(5), "act"};
+            "advance " + (random.nextInt(20) == 0 ? 0 : 1 + random.nextInt(5)), "act"};
         return commands[random.nextInt(commands.length)];
     }
 }

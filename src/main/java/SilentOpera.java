@@ -76,7 +76,8 @@ public final class SilentOpera {
     }
 
     public int payFine(int performer, int coins)
-            throws IndexOutOfBoundsException, IllegalArgumentException, UnsupportedOperationException {
+            throws IndexOutOfBoundsException, IllegalArgumentException,
+            UnsupportedOperationException {
         history.prepare(sheet);
         int answer = sheet.pay(performer, coins);
         if (answer == FIRST_FAULT) {
@@ -149,7 +150,8 @@ public final class SilentOpera {
         return answer;
     }
 
-    public int cueHush(int beat, int length) throws IllegalArgumentException, IllegalStateException {
+    public int cueHush(int beat, int length)
+            throws IllegalArgumentException, IllegalStateException {
         history.prepare(sheet);
         int answer = sheet.putHush(beat, length);
         if (answer == FIRST_FAULT) {
@@ -825,7 +827,7 @@ public final class SilentOpera {
             return candidate >= beat && (candidate <= hushEnd || cues.isHushDue(candidate));
         }
 
-        /** The fines of the next beats for a performer, told from the cues without passing beats. */
+        /** The fines of the next beats for a performer, told from the cues without a copy. */
         int foreseen(int performer, int beats) {
             int lastBeat = beat + beats;
             int coins = 0;
@@ -1016,7 +1018,7 @@ public final class SilentOpera {
             return found;
         }
 
-        /** Lists the cues up to a beat, in cue order, in the order row, and answers their number. */
+        /** Lists the cues up to a beat in the order row, and answers their number. */
         int listThrough(int lastBeat) {
             int listed = 0;
             int slot = firstNotBefore(0, 0);
@@ -1115,7 +1117,7 @@ public final class SilentOpera {
         }
     }
 
-    /** The sheets before the latest changes, in a ring with one sheet to spare for the next change. */
+    /** The sheets before the latest changes, in a ring with a spare one for the next change. */
     private static final class History {
         private final Sheet[] sheets = new Sheet[MAX_UNDO + 1];
         private int spare = 0;

@@ -6,10 +6,12 @@ import java.util.Comparator;
 import java.util.List;
 import java.util.Random;
 
-/** Random runs of up to 512 calls, with fixed seeds, against the model of the document. */
+/** Random runs of 512 calls, with fixed seeds, against the model of the document. */
 public final class ModelTest {
     private static final int RUNS = 4000;
     private static final int CALLS = 512;
+    // A run before, 60 characters, the run of them and three queries.
+    private static final int MOST_TYPED = 65;
     private static final int[] ODD = {Integer.MIN_VALUE, -1, 0, 16, 40, 41, 99, 100, 199, 200,
         Integer.MAX_VALUE};
     private static final String[] CHANGES = {"addPerformer", "payFine", "whisper", "cueMouth",
@@ -56,7 +58,7 @@ public final class ModelTest {
             Method method = dice < changesOf10
                     ? named(methods, CHANGES[random.nextInt(CHANGES.length)])
                     : methods.get(random.nextInt(methods.size()));
-            if (random.nextInt(150) == 0) {
+            if (random.nextInt(150) == 0 && calls + MOST_TYPED <= CALLS) {
                 typeAndRun(methods);
             } else if (!isSlow || !isHasty(method.getName()) || random.nextInt(6) == 0) {
                 call(method, isSlow);
@@ -98,7 +100,7 @@ public final class ModelTest {
         Object due = Check.outcome(() -> model.call(what, numbers[0], numbers[1], numbers[2]));
         Object got = outcome(method, given);
         check.same(name + ", call " + calls + ", " + what + Arrays.toString(given), due, got);
-        now = opera.now();
+        now = (Integer) model.call("now", 0, 0, 0);
     }
 
     private Object outcome(Method method, Object[] given) {
@@ -136,8 +138,9 @@ public final class ModelTest {
     }
 
     private int pendingId() {
-        int cues = opera.cueCount();
-        return cues > 0 && random.nextInt(8) != 0 ? opera.cueAt(random.nextInt(cues)) : random.nextInt(40);
+        int cues = (Integer) model.call("cueCount", 0, 0, 0);
+        return cues > 0 && random.nextInt(8) != 0
+                ? (Integer) model.call("cueAt", random.nextInt(cues), 0, 0) : random.nextInt(40);
     }
 
     private void typeAndRun(List<Method> methods) {

@@ -3,7 +3,7 @@ import java.lang.management.ManagementFactory;
 
 /** All calls of one run live in one room, so the dearest calls must make next to nothing. */
 public final class RoomTest {
-    private static final int CALLS = 512;
+    private static final int TIMES = 10;
     private static final long BYTES_PER_OBJECT = 16_000;
     private static final long BYTES_PER_CALL = 100;
 
@@ -45,15 +45,17 @@ public final class RoomTest {
     }
 
     private static void bounded(String what, long most, Action action) {
-        SilentOpera opera = fullStage();
-        for (int call = 0; call < CALLS; call++) {
-            action.go(opera);
-        }
-        long before = threads.getCurrentThreadAllocatedBytes();
-        for (int call = 0; call < CALLS; call++) {
-            action.go(opera);
-        }
-        long bytes = (threads.getCurrentThreadAllocatedBytes() - before) / CALLS;
+        bytesOf(action);
+        long bytes = bytesOf(action) / TIMES;
         check.isTrue(what + " makes " + bytes + " bytes, at most " + most, bytes <= most);
+    }
+
+    private static long bytesOf(Action action) {
+        SilentOpera opera = fullStage();
+        long before = threads.getCurrentThreadAllocatedBytes();
+        for (int time = 0; time < TIMES; time++) {
+            action.go(opera);
+        }
+        return threads.getCurrentThreadAllocatedBytes() - before;
     }
 }

@@ -391,6 +391,19 @@ final class Model {
         return text.length();
     }
 
+    static boolean isCommandText(String text) {
+        return TEXT.matcher(text).matches();
+    }
+
+    /** The error position of a text that is not a command text. */
+    static int errorPositionOf(String text) {
+        int position = 0;
+        while (position < text.length() && canGoOn(text.substring(0, position + 1))) {
+            position++;
+        }
+        return position;
+    }
+
     private static boolean canGoOn(String prefix) {
         Matcher matcher = TEXT.matcher(prefix);
         return matcher.matches() || matcher.hitEnd();
@@ -399,12 +412,8 @@ final class Model {
     private int run() {
         String given = text;
         text = "";
-        if (!TEXT.matcher(given).matches()) {
-            int position = 0;
-            while (position < given.length() && canGoOn(given.substring(0, position + 1))) {
-                position++;
-            }
-            error = position;
+        if (!isCommandText(given)) {
+            error = errorPositionOf(given);
             throw argument();
         }
         String[] commands = given.split(";");

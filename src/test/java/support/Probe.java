@@ -1,6 +1,10 @@
-/** Writes down all that the queries of an object answer, to see whether a call changed anything. */
+/**
+ * Writes down what the queries of an object answer. It takes some 250 calls, so that an object is
+ * good for one probe and what comes before it.
+ */
 final class Probe {
-    private static final int LAST_BEAT = 215;
+    private static final int LONGEST_HUSH = 9;
+    private static final int LONGEST_LINE = 20;
 
     private final SilentOpera opera;
     private final StringBuilder text = new StringBuilder();
@@ -15,6 +19,7 @@ final class Probe {
         probe.cues();
         probe.beats();
         probe.totals();
+        probe.note("line", line(opera));
         return probe.text.toString();
     }
 
@@ -26,24 +31,29 @@ final class Probe {
         int count = opera.performerCount();
         note("performers", count);
         for (int performer = 0; performer < count; performer++) {
-            int number = performer;
             note("fines " + performer, opera.fines(performer));
             note("mouthing " + performer, opera.isMouthing(performer));
             note("rank " + performer, opera.performerAtRank(performer));
-            note("foreseen " + performer, Check.outcome(() -> opera.finesAfter(number, 40)));
-            note("by cues " + performer, Check.outcome(() -> opera.finesAfterByCues(number, 40)));
+            note("foreseen " + performer, opera.finesAfter(performer, 40));
+            note("by cues " + performer, opera.finesAfterByCues(performer, 40));
         }
     }
 
     private void cues() {
-        note("cues", opera.cueCount());
-        for (int rank = 0; rank < opera.cueCount(); rank++) {
+        int count = opera.cueCount();
+        note("cues", count);
+        for (int rank = 0; rank < count; rank++) {
             int cue = opera.cueAt(rank);
+            int beat = opera.cueBeat(cue);
             note("cue " + rank, cue);
-            note("beat", opera.cueBeat(cue));
+            note("beat", beat);
             note("kind", opera.cueKind(cue));
             note("size", opera.cueSize(cue));
             note("performer", Check.outcome(() -> opera.cuePerformer(cue)));
+            note("noise", opera.noiseAt(beat));
+            note("hushed", opera.isHushed(beat));
+            note("next", Check.outcome(() -> opera.firstCueFrom(beat + 1)));
+            note("next by scan", Check.outcome(() -> opera.firstCueFromByScan(beat + 1)));
         }
         note("conflicts", opera.conflictCount());
         note("conflicts by pass", opera.conflictCountByPass());
@@ -51,22 +61,15 @@ final class Probe {
     }
 
     private void beats() {
-        for (int beat = -1; beat <= LAST_BEAT; beat++) {
-            int at = beat;
-            if (opera.noiseAt(beat) != 0) {
-                note("noise " + beat, opera.noiseAt(beat));
-            }
-            if (opera.isHushed(beat)) {
-                note("hushed", beat);
-            }
-            note("first", Check.outcome(() -> opera.firstCueFrom(at)));
-            note("first by scan", Check.outcome(() -> opera.firstCueFromByScan(at)));
+        int now = opera.now();
+        note("now", now);
+        note("act", opera.act());
+        for (int beat = now - 1; beat <= now + LONGEST_HUSH; beat++) {
+            note("hushed " + beat, opera.isHushed(beat));
         }
     }
 
     private void totals() {
-        note("now", opera.now());
-        note("act", opera.act());
         note("happened", opera.happenedCount());
         note("clashes", opera.clashCount());
         note("imposed", opera.imposedTotal());
@@ -74,12 +77,19 @@ final class Probe {
         note("mean", Check.outcome(opera::meanFines));
         note("share", Check.outcome(opera::hushedShare));
         note("consistent", opera.isConsistent());
+    }
+
+    /** The signs of the line up to the first index that there is not. */
+    static String line(SilentOpera opera) {
         StringBuilder line = new StringBuilder();
-        for (int index = 0; index < 40; index++) {
+        for (int index = 0; index < LONGEST_LINE; index++) {
             int at = index;
             Object sign = Check.outcome(() -> opera.lineAt(at));
-            line.append(sign instanceof Character ? sign : "");
+            if (!(sign instanceof Character)) {
+                break;
+            }
+            line.append(sign);
         }
-        note("line", line);
+        return line.toString();
     }
 }

@@ -192,11 +192,11 @@ public final class SilentOpera {
     }
 
     public int cueAt(int rank) throws NoSuchElementException {
-        int listed = sheet.cues.listThrough(LAST_CUE_BEAT);
-        if (rank < 0 || rank >= listed) {
+        int slot = sheet.cues.slotAt(rank);
+        if (!CueTree.isSlot(slot)) {
             throw new NoSuchElementException("no such rank");
         }
-        return sheet.cues.ids[sheet.cues.order[rank]];
+        return sheet.cues.ids[slot];
     }
 
     public int firstCueFrom(int beat) throws NoSuchElementException {
@@ -507,9 +507,9 @@ public final class SilentOpera {
 
     private boolean forecastsAgree(int beats) {
         passOnTrial(beats);
-        for (int performer = 0; performer < sheet.performers; performer++) {
+        for (int performer = 0; performer < MAX_PERFORMERS; performer++) {
             int imposed = trial.owed[performer] - sheet.owed[performer];
-            if (imposed != sheet.foreseen(performer, beats)) {
+            if (sheet.hasPerformer(performer) && imposed != sheet.foreseen(performer, beats)) {
                 return false;
             }
         }
@@ -605,8 +605,8 @@ public final class SilentOpera {
 
         /** The performer at a rank, or NONE. */
         int ranked(int rank) {
-            for (int performer = 0; performer < performers; performer++) {
-                if (rankOf(performer) == rank) {
+            for (int performer = 0; performer < MAX_PERFORMERS; performer++) {
+                if (hasPerformer(performer) && rankOf(performer) == rank) {
                     return performer;
                 }
             }
@@ -615,8 +615,8 @@ public final class SilentOpera {
 
         private int rankOf(int performer) {
             int rank = 0;
-            for (int other = 0; other < performers; other++) {
-                if (comesBefore(other, performer)) {
+            for (int other = 0; other < MAX_PERFORMERS; other++) {
+                if (hasPerformer(other) && comesBefore(other, performer)) {
                     rank++;
                 }
             }
@@ -782,7 +782,7 @@ public final class SilentOpera {
         private void beginHushes(int due) {
             for (int index = 0; index < due && index < MAX_CUES; index++) {
                 int slot = cues.order[index];
-                if (cues.kinds[slot] == HUSH) {
+                if (cues.isKind(slot, HUSH)) {
                     hushEnd = Math.max(hushEnd, cues.lastBeat(slot));
                 }
             }
@@ -791,7 +791,7 @@ public final class SilentOpera {
         private void openMouths(int due) {
             for (int index = 0; index < due && index < MAX_CUES; index++) {
                 int slot = cues.order[index];
-                if (cues.kinds[slot] == MOUTH) {
+                if (cues.isKind(slot, MOUTH)) {
                     openMouth(cues.players[slot], cues.lastBeat(slot));
                 }
             }
@@ -813,7 +813,7 @@ public final class SilentOpera {
             }
             for (int index = 0; index < due && index < MAX_CUES; index++) {
                 int slot = cues.order[index];
-                if (cues.kinds[slot] == PROP) {
+                if (cues.isKind(slot, PROP)) {
                     impose(cues.players[slot], cues.sizes[slot]);
                 }
             }
@@ -973,14 +973,16 @@ public final class SilentOpera {
 
         /** One tree of two, all of whose first comes before all of the second. */
         private int joined(int first, int second) {
-            if (first < 0) {
-                return second;
-            }
+            int last = NONE;
             int node = first;
-            for (int step = 0; step < MAX_CUES && higher[node] >= 0; step++) {
+            for (int step = 0; step < MAX_CUES && node >= 0 && node < MAX_CUES; step++) {
+                last = node;
                 node = higher[node];
             }
-            higher[node] = second;
+            if (last == NONE) {
+                return second;
+            }
+            higher[last] = second;
             return first;
         }
 
@@ -1028,6 +1030,16 @@ public final class SilentOpera {
                 slot = firstNotBefore(beats[slot], ids[slot] + 1);
             }
             return listed;
+        }
+
+        /** The slot of the cue at a rank of the cue order, or NONE. */
+        int slotAt(int rank) {
+            int listed = listThrough(LAST_CUE_BEAT);
+            return rank >= 0 && rank < listed && rank < MAX_CUES ? order[rank] : NONE;
+        }
+
+        boolean isKind(int slot, char kind) {
+            return isSlot(slot) && kinds[slot] == kind;
         }
 
         int lastBeat(int slot) {
@@ -1092,7 +1104,7 @@ public final class SilentOpera {
         }
 
         private boolean isMouthPair(int one, int other) {
-            return kinds[one] == MOUTH && kinds[other] == MOUTH && players[one] == players[other];
+            return isKind(one, MOUTH) && isKind(other, MOUTH) && players[one] == players[other];
         }
 
         int conflictsPassed() {

@@ -168,8 +168,9 @@ public final class LineAndUndoTest {
             Check.Act act = CHANGES[change];
             check.isTrue("change " + change + " differs", !Aftermath.state(changeable()).equals(
                     Aftermath.state(Stage.then(changeable(), act))));
-            check.sameAfter("undo of change " + change, Aftermath.of(LineAndUndoTest::changeable),
-                    Aftermath.of(() -> Stage.then(changeable(), act, SilentOpera::undo)));
+            Check.Setting changed = () -> Stage.then(changeable(), it -> it.setLimit(8));
+            check.sameAfter("undo of change " + change, Aftermath.of(changed),
+                    Aftermath.of(() -> Stage.then(changed.make(), act, SilentOpera::undo)));
             check.sameAfter("restore after change " + change,
                     Aftermath.of(LineAndUndoTest::changeable),
                     Aftermath.of(() -> Stage.then(changeable(), act, SilentOpera::restore)));

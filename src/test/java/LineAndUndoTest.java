@@ -51,8 +51,10 @@ public final class LineAndUndoTest {
                 LineAndUndoTest::latestEight);
         document.says("The command text, the error position, the failure, and the line are neither"
                 + " undone nor saved.", LineAndUndoTest::neitherUndoneNorSaved);
-        document.says("Everything else is, including the id of the next cue.",
-                LineAndUndoTest::everythingElse);
+        document.says("Everything else is, including the id of the next cue.", () -> {
+            everythingElse();
+            everythingElseInNumbers();
+        });
     }
 
     private static void eachChange() {
@@ -182,6 +184,67 @@ public final class LineAndUndoTest {
         opera.cueHush(9, 1);
         opera.restore();
         check.same("the next id is restored", 3, opera.cueHush(9, 1));
+    }
+
+    /**
+     * An object of which holdsAll() knows each answer. The tests by comparison would not see what
+     * is lost already while their own objects are made.
+     */
+    private static SilentOpera inNumbers() {
+        SilentOpera opera = Stage.with(2);
+        opera.setLimit(5);
+        opera.turnAct();
+        opera.cueProp(0, 1, 6);
+        opera.cueMouth(1, 2, 9);
+        opera.cueMouth(1, 2, 3);
+        opera.cueHush(2, 9);
+        opera.cueProp(1, 20, 7);
+        opera.cueMouth(0, 21, 8);
+        opera.advance(2);
+        opera.whisper(1, 3);
+        opera.payFine(0, 4);
+        return opera;
+    }
+
+    private static void holdsAll(String what, SilentOpera opera) {
+        check.same(what + ", performers", 2, opera.performerCount());
+        check.same(what + ", fines", "2 6", opera.fines(0) + " " + opera.fines(1));
+        check.same(what + ", closed mouth", false, opera.isMouthing(0));
+        check.same(what + ", open mouth", true, opera.isMouthing(1));
+        check.same(what + ", beat and act", "2 1", opera.now() + " " + opera.act());
+        check.same(what + ", cues", 2, opera.cueCount());
+        check.same(what + ", order", "4 5", opera.cueAt(0) + " " + opera.cueAt(1));
+        cueLine("#4p1@20=7", opera, 4);
+        cueLine("#5m0@21=8", opera, 5);
+        check.same(what + ", happened", 4, opera.happenedCount());
+        check.same(what + ", clashes", 1, opera.clashCount());
+        check.same(what + ", imposed", 12, opera.imposedTotal());
+        check.same(what + ", paid", 4, opera.paidTotal());
+        check.same(what + ", share", 0.5f, opera.hushedShare());
+        check.same(what + ", limit", 5, opera.setLimit(30));
+        check.same(what + ", next id", 6, opera.cueHush(199, 1));
+        opera.advance(8);
+        check.same(what + ", last beat of the mouth", true, opera.isMouthing(1));
+        check.same(what + ", last beat of the hush", 2, opera.whisper(0, 1));
+        opera.advance(1);
+        check.same(what + ", after the mouth", false, opera.isMouthing(1));
+        check.same(what + ", after the hush", 0, opera.whisper(0, 1));
+    }
+
+    private static void everythingElseInNumbers() {
+        holdsAll("without a change", inNumbers());
+        for (int change = 0; change < CHANGES.length; change++) {
+            Check.Act act = CHANGES[change];
+            holdsAll("undo of change " + change,
+                    Stage.then(inNumbers(), act, SilentOpera::undo));
+            holdsAll("restore after change " + change,
+                    Stage.then(inNumbers(), SilentOpera::save, act, SilentOpera::restore));
+        }
+        String[] failing = {"performer;pay 1 3;whisper 13;limit 1;act;cancel 999",
+            "move 4 50;prop 0 9 9;cancel 5;advance 40;move 4 9", "advance 2;hush 2 1"};
+        for (String text : failing) {
+            holdsAll("after '" + text + "' has failed", Stage.run(inNumbers(), text));
+        }
     }
 
     private static void line(Sentences document) {

@@ -23,6 +23,7 @@ public final class RefusalsTest {
         document.in("Exceptions");
         document.says("A method that throws an exception changes nothing, except that run clears the"
                 + " command text and sets the error position or the failure.", () -> {
+                    richHoldsMuch();
                     refusedPerformers();
                     refusedCues();
                     refusedBeats();
@@ -52,6 +53,26 @@ public final class RefusalsTest {
             opera.cueProp(5, 30, 9);
         }
         return Stage.type(opera, "act".repeat(20));
+    }
+
+    /** What the other tests take to be there, and could not see spoilt if it were not. */
+    private static void richHoldsMuch() {
+        SilentOpera opera = rich();
+        check.same("beat and act", "3 1", opera.now() + " " + opera.act());
+        check.same("fines", "9 9", opera.fines(0) + " " + opera.fines(1));
+        check.same("mouths", "true false", opera.isMouthing(0) + " " + opera.isMouthing(1));
+        check.same("the hush that has begun", "true false",
+                opera.isHushed(10) + " " + opera.isHushed(11));
+        check.same("cues", 4, opera.cueCount());
+        check.same("conflicts", 1, opera.conflictCount());
+        check.same("line", "#7h@19=3", Probe.line(opera));
+        check.same("reports", "4 1 1", opera.errorPosition() + " " + opera.failedCommand() + " "
+                + opera.failedException());
+        check.same("length of the text", 11, Aftermath.textLength(rich()));
+        check.same("the text", 2, rich().run());
+        check.same("the latest eight changes", 7, rich().undo());
+        check.same("cues of the snapshot", 5, opera.restore());
+        check.same("beat of the snapshot", 1, opera.now());
     }
 
     private static void nothing(String method, Class<? extends RuntimeException> due,

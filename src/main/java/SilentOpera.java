@@ -1143,7 +1143,9 @@ public final class SilentOpera {
 
         /** Notes the sheet before a change, which is only undone later if keep() follows. */
         void prepare(Sheet sheet) {
-            sheets[spare].copyFrom(sheet);
+            if (isPlace(spare)) {
+                sheets[spare].copyFrom(sheet);
+            }
         }
 
         void keep() {
@@ -1152,7 +1154,13 @@ public final class SilentOpera {
         }
 
         void rollBack(Sheet sheet) {
-            sheet.copyFrom(sheets[spare]);
+            if (isPlace(spare)) {
+                sheet.copyFrom(sheets[spare]);
+            }
+        }
+
+        private static boolean isPlace(int place) {
+            return place >= 0 && place <= MAX_UNDO;
         }
 
         void takeBack(Sheet sheet) {
